@@ -927,7 +927,6 @@ public final class PromiseTest {
         due("others", x.jumps(1 << 10), BAD);
         due("below 0", x.jumps(-1), BAD);
         due("the highest bit", x.jumps(MIN), BAD);
-        // the least DAYS are 0, 300, 600: 1 ahead of 0 ahead of 2 by bounds below the least DAYS
         x.bound(1, 0, 1);
         due("moved", x.jumps(0b11), 1);
         LetterDrawer y = drawer(1, 3, 0);
