@@ -1177,95 +1177,66 @@ public final class LetterDrawer {
     /** THE ORDER of a set of LETTERS. */
     private static final class Sequence {
         static final int MOST = 8;
-        private static final int NEVER = 1 << 28;
+        private static final int UP = 1, DOWN = -1;
 
         final int[] row = new int[MOST];
         int jumps = 0;
-        private final int[] members = new int[MOST];
-        private final int[] days = new int[MOST];
-        private final int[] ahead = new int[MOST];
-        private final int[] rest = new int[MOST * (1 << MOST)];
         private int size = 0;
 
-        /** For a calendar that is settled, with its paths measured. */
+        // The least JUMPS lead straight from the first to the last of the least DAYS, or straight back; each other
+        // way is longer. Who is BEFORE another one has the lesser least DAY: so the way up is always open, the way
+        // down if none is BEFORE another. The two begin with unlike LETTERS, or are the same.
         void arrange(int set, Calendar calendar) {
+            collect(set);
+            jumps = 0;
+            if (size == 0) {
+                return;
+            }
+            sort(calendar.lows, UP);
+            jumps = calendar.lows[row[size - 1]] - calendar.lows[row[0]];
+            int first = row[0];
+            if (isFree(calendar)) {
+                sort(calendar.lows, DOWN);
+                if (first < row[0]) {
+                    sort(calendar.lows, UP);
+                }
+            }
+        }
+
+        private void collect(int set) {
             size = 0;
             for (int letter = 0; letter < Letters.MOST; letter++) {
                 if ((set >> letter & 1) == 1 && size < MOST) {
-                    members[size] = letter;
-                    days[size] = calendar.lows[letter];
+                    row[size] = letter;
                     size++;
                 }
             }
+        }
+
+        private boolean isFree(Calendar calendar) {
             for (int i = 0; i < size; i++) {
-                ahead[i] = 0;
                 for (int j = 0; j < size; j++) {
-                    if (i != j && calendar.isAhead(members[j], members[i])) {
-                        ahead[i] |= 1 << j;
+                    if (i != j && calendar.isAhead(row[i], row[j])) {
+                        return false;
                     }
                 }
             }
-            weighRests();
-            chooseRow();
+            return true;
         }
 
-        // From the full set down, so that what a rest builds on is already there.
-        private void weighRests() {
-            int all = (1 << size) - 1;
-            for (int placed = all; placed > 0; placed--) {
-                for (int last = 0; last < size; last++) {
-                    if ((placed >> last & 1) == 1) {
-                        rest[placed * MOST + last] = placed == all ? 0 : leastRest(placed, last);
-                    }
+        private void sort(int[] days, int way) {
+            for (int i = 1; i < size; i++) {
+                for (int j = i; j > 0 && isBehind(row[j - 1], row[j], days, way); j--) {
+                    int other = row[j];
+                    row[j] = row[j - 1];
+                    row[j - 1] = other;
                 }
             }
         }
 
-        private int leastRest(int placed, int last) {
-            int least = NEVER;
-            for (int next = 0; next < size; next++) {
-                if (mayFollow(placed, next)) {
-                    least = Math.min(least, jumpsBy(placed, last, next));
-                }
-            }
-            return least;
-        }
-
-        private void chooseRow() {
-            int placed = 0;
-            int last = NONE;
-            jumps = 0;
-            for (int i = 0; i < size; i++) {
-                int next = firstBest(placed, last);
-                if (i == 0) {
-                    jumps = jumpsBy(placed, last, next);
-                }
-                row[i] = members[next];
-                placed |= 1 << next;
-                last = next;
-            }
-        }
-
-        // Of like ones the lesser LETTER: the members stand from the least on.
-        private int firstBest(int placed, int last) {
-            int best = 0;
-            int least = Integer.MAX_VALUE;
-            for (int next = 0; next < size; next++) {
-                if (mayFollow(placed, next) && jumpsBy(placed, last, next) < least) {
-                    best = next;
-                    least = jumpsBy(placed, last, next);
-                }
-            }
-            return best;
-        }
-
-        private boolean mayFollow(int placed, int next) {
-            return (placed >> next & 1) == 0 && (ahead[next] & ~placed) == 0;
-        }
-
-        private int jumpsBy(int placed, int last, int next) {
-            int jump = last == NONE ? 0 : Math.abs(days[next] - days[last]);
-            return jump + rest[(placed | 1 << next) * MOST + next];
+        private static boolean isBehind(int a, int b, int[] days, int way) {
+            int jump = (days[a] - days[b]) * way;
+            return jump > 0 || jump == 0 && a > b;
         }
     }
 

@@ -160,6 +160,12 @@ public final class PromiseTest {
         due("last 10000", x.lived(1, 0, 10000), BAD);
         due("a refusal changes nothing", x.means(0, 2), 1);
         due("all days", x.lived(0, 0, 9999), 1);
+        LetterDrawer y = drawer(2, 1, 0);
+        y.knows(0, 1, true);
+        y.days(0, 0, 0);
+        due("0 at first", y.means(0, 2), 1);
+        y.days(0, 9999, 9999);
+        due("9999 at first", y.means(0, 2), 1);
     }
 
     private static void knows() {
@@ -334,6 +340,11 @@ public final class PromiseTest {
         due("three of one DAY, greatest", x.span(1, 1), 50);
         x.week(1, 1);
         due("the WEEKDAY of one is that of all", x.span(2, 0), 36);
+        x.week(1, NONE);
+        x.week(2, 1);
+        due("that of the found one too", x.span(0, 0), 36);
+        x.week(0, 1);
+        due("twice the same", x.span(1, 0), 36);
         x.week(0, 2);
         due("two WEEKDAYS", x.span(2, 0), NONE);
     }
@@ -489,6 +500,12 @@ public final class PromiseTest {
         due("from one to one", x.before(0, 5), 0);
         due("of LETTERS that are one any", x.before(5, 2), 1);
         due("from the found one", x.before(0, 3), 1);
+        LetterDrawer y = drawer(1, 3, 0);
+        y.bound(2, 0, 5);
+        y.bound(0, 1, -4);
+        due("to the first LETTER", y.before(2, 0), 1);
+        due("by the first LETTER", y.before(2, 1), 1);
+        due("from the first LETTER", y.before(0, 1), 0);
     }
 
     private static void post() {
@@ -634,6 +651,9 @@ public final class PromiseTest {
         x.days(1, 0, 10);
         x.bound(0, 1, 0);
         due("CLASH: all DAYS", x.means(0, 7), 2);
+        x.lived(1, 0, 0);
+        x.lived(2, 9999, 9999);
+        due("CLASH: the first DAY and the last one too", x.means(0, 7), 2);
         x.hand(0, 7, 3);
         due("a HAND's word", x.means(0, 7), 1);
         x.hand(0, 99, 3);
@@ -877,6 +897,7 @@ public final class PromiseTest {
             {"", "", "0"}, {"a b c", "a b c", "0"}, {"a.b c", " a b{d x} c", "0"}, {"a b c", "", "3"}, {"a b c", "a x c", "1"},
             {"a b c", "b c", "1"}, {"a b c d", "b c d a", "2"}, {"ab", "a b", "2"}, {"ab", "abc", "1"}, {"a b", "b a", "2"},
             {"k i t t e n", "s i t t i n g", "3"}, {"x y", "p x q y r", "3"}, {"ab cd", "{s9999:ab} cd", "0"},
+            {"abc ab", "abc.abc", "1"}, {"abc.abd", "abc abc", "1"}, {"abc abd.", "abc.abd ", "0"}, {"xbc", "abc", "1"},
         };
         for (String[] pair : pairs) {
             LetterDrawer x = drawer(1, 2, 0);
@@ -977,10 +998,31 @@ public final class PromiseTest {
         LetterDrawer y = drawer(1, 9, 0);
         due("more than 8", y.order(0x1FF, 0), BAD);
         orderDue(y, 0x1FE, 1, 2, 3, 4, 5, 6, 7, 8);
+        wayDown();
         farWay();
     }
 
-    /** What must stand first is far from the rest, so that the way goes there and back. */
+    /** The way down is as short as the way up, but one BEFORE another shuts it. */
+    private static void wayDown() {
+        LetterDrawer x = drawer(1, 5, 0);
+        int[] least = {200, 300, 100, 200, 300};
+        for (int i = 0; i < 5; i++) {
+            x.days(i, least[i], 9999);
+        }
+        orderDue(x, 0b00111, 1, 0, 2);
+        orderDue(x, 0b11111, 1, 4, 0, 3, 2);
+        x.bound(0, 1, 0);
+        orderDue(x, 0b00111, 1, 0, 2);
+        x.bound(0, 1, 1);
+        orderDue(x, 0b00111, 2, 0, 1);
+        orderDue(x, 0b11111, 2, 0, 3, 1, 4);
+        orderDue(x, 0b11110, 1, 4, 3, 2);
+        x.loose();
+        x.days(2, 100, 299);
+        orderDue(x, 0b00111, 2, 0, 1);
+        orderDue(x, 0b00101, 0, 2);
+    }
+
     private static void farWay() {
         LetterDrawer x = drawer(1, 4, 0);
         x.days(0, 100, 9999);
@@ -1020,6 +1062,7 @@ public final class PromiseTest {
         due("three BOUNDS", x.count(2), 3);
         due("what -1", x.count(-1), BAD);
         due("what 6", x.count(6), BAD);
+        due("twelve LOST", drawer(1, 12, 4).count(3), 12);
     }
 
     private static void tray() {
@@ -1053,6 +1096,10 @@ public final class PromiseTest {
         x.text(0);
         due("0 again from the second on", x.fault(1), 1);
         x.cell(1, 0, 'b');
+        x.tray(1, 3);
+        x.lay(1, 0, 1);
+        x.text(0);
+        due("0 again at the first too", x.fault(1), 0);
         due("a refused one", x.tray(1, 61), BAD);
         due("a refused one", x.tray(1, -2), -14);
         due("changes nothing", x.lay(1, 0, 3), 3);
