@@ -1183,9 +1183,9 @@ public final class LetterDrawer {
         int jumps = 0;
         private int size = 0;
 
-        // The least JUMPS lead straight from the first to the last of the least DAYS, or straight back; each other
-        // way is longer. Who is BEFORE another one has the lesser least DAY: so the way up is always open, the way
-        // down if none is BEFORE another. The two begin with unlike LETTERS, or are the same.
+        // No way over the least DAYS is as short as the one straight up or the one straight down. A LETTER that is
+        // BEFORE another one has the lesser least DAY: so the way up is always open, and the way down if none of
+        // them is BEFORE another. The two ways begin with unlike LETTERS, or are the same.
         void arrange(int set, Calendar calendar) {
             collect(set);
             jumps = 0;
@@ -1224,19 +1224,15 @@ public final class LetterDrawer {
             return true;
         }
 
+        // Of like DAYS the lesser LETTER stays first, as the row has come.
         private void sort(int[] days, int way) {
             for (int i = 1; i < size; i++) {
-                for (int j = i; j > 0 && isBehind(row[j - 1], row[j], days, way); j--) {
+                for (int j = i; j > 0 && (days[row[j - 1]] - days[row[j]]) * way > 0; j--) {
                     int other = row[j];
                     row[j] = row[j - 1];
                     row[j - 1] = other;
                 }
             }
-        }
-
-        private static boolean isBehind(int a, int b, int[] days, int way) {
-            int jump = (days[a] - days[b]) * way;
-            return jump > 0 || jump == 0 && a > b;
         }
     }
 
